@@ -280,17 +280,20 @@ public final class CaseDesk {
     private int workOff() {
         for (int step = 0; step <= MOST_BOUND && !cut; step++) {
             int leaving = lowestToExit();
-            int entering = leaving == NONE ? lowestToEnter() : NONE;
-            int done = leaving == NONE && entering == NONE ? lowestToComplete() : NONE;
             if (leaving != NONE) {
                 make(leaving, EXIT, 0);
-            } else if (entering != NONE) {
+                continue;
+            }
+            int entering = lowestToEnter();
+            if (entering != NONE) {
                 letIn(entering);
-            } else if (done != NONE) {
-                make(done, COMPLETE, 0);
-            } else {
+                continue;
+            }
+            int done = lowestToComplete();
+            if (done == NONE) {
                 return made;
             }
+            make(done, COMPLETE, 0);
         }
         life.copyFrom(before);
         throw new UnsupportedOperationException("the command was cut off");
@@ -663,13 +666,10 @@ public final class CaseDesk {
             return state[k] == AVAILABLE || state[k] == ENABLED;
         }
 
-        /** A place may have been used by a command that was cut off, so all of it is made new. */
+        /** A place beyond the count holds no marks and no moves, even after a command was cut off. */
         int add(int newItem, int newParent) {
             item[count] = newItem;
             parent[count] = newParent;
-            state[count] = AVAILABLE;
-            movesMade[count] = 0;
-            marks[count] = 0;
             count++;
             return count - 1;
         }
@@ -682,6 +682,7 @@ public final class CaseDesk {
             moveCount++;
         }
 
+        /** The rows are copied whole, so that the places beyond the count are empty again too. */
         void copyFrom(Life other) {
             bound = other.bound;
             count = other.count;

@@ -70,6 +70,30 @@ public final class QuestionsTest {
         }
         desk.move(1, 4);
         due.is("one that is final", desk.marked(1, 0, 0), false);
+        markedInSentriesSideBySide(due);
+    }
+
+    /** Sentries 0 and 1 of one task, sentry 2 of another; each one's first part is marked. */
+    private static void markedInSentriesSideBySide(Due due) {
+        CaseDesk desk = new CaseDesk();
+        desk.item(1, 0, 0);
+        desk.item(1, 0, 0);
+        for (int item : new int[] {1, 1, 2}) {
+            int sentry = desk.sentry(item, true);
+            desk.on(sentry, 100, 0);
+            desk.on(sentry, 101, 0);
+        }
+        desk.begin(20);
+        desk.set(0, 1);
+        for (int k = 0; k < 3; k++) {
+            for (int s = 0; s < 3; s++) {
+                boolean own = k == 1 && s < 2 || k == 2 && s == 2;
+                due.is("marked(" + k + ", " + s + ", 0)", desk.marked(k, s, 0), own);
+                for (int part : new int[] {-2, -1, 1, 2, 3, 4}) {
+                    due.is("marked(" + k + ", " + s + ", " + part + ")", desk.marked(k, s, part), false);
+                }
+            }
+        }
     }
 
     /** A task is suspended and resumed until the history is longer than what it still tells. */
