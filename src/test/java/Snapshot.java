@@ -1,4 +1,7 @@
-/** Everything that the questions of a desk, or of the model, answer, as one text. */
+/**
+ * Everything that the questions of a desk, or of the model, answer, as one text. These may be more than
+ * the 512 calls for which an object is used; the program doesn't count its calls.
+ */
 final class Snapshot {
     private interface Question {
         int ask(int a, int b, int c);
