@@ -250,7 +250,8 @@ public final class CommandEdgeTest {
     /** "or it is START and it isn't ENABLED": an AVAILABLE one could START, but not by a command. */
     private static void startOfOneThatIsNotEnabled(Due due) {
         for (int kind = 0; kind < 2; kind++) {
-            new Twins(due, inState(kind, 0)).refuse("START of an AVAILABLE one", STATE, desk -> desk.move(1, 2));
+            Twins available = new Twins(due, inState(kind, 0));
+            available.refuse("START of an AVAILABLE one", STATE, desk -> desk.move(1, 2));
             due.is("START of an ENABLED one", new Twins(due, inState(kind, 1)).desk().move(1, 2), 2 - kind);
         }
     }
@@ -279,7 +280,7 @@ public final class CommandEdgeTest {
         }
     }
 
-    /** Instance 1 is a stage, 3 a listener in it, 4 a task in it in the state; 2 keeps the case from its end. */
+    /** Instance 1 is a stage, in it 3 a listener and 4 a task in the state; 2 keeps the case from its end. */
     private static Twins.Steps stageWithChild(int flags, int state) {
         return desk -> {
             desk.item(0, 0, 0);

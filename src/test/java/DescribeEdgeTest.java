@@ -1,3 +1,5 @@
+import java.util.NoSuchElementException;
+
 /** The boundary cases of promises 1 to 3: a new object, item, sentry; each test names its sentence. */
 public final class DescribeEdgeTest {
     private static final Class<IllegalStateException> STATE = IllegalStateException.class;
@@ -45,7 +47,8 @@ public final class DescribeEdgeTest {
         due.is("history(0, 0)", desk.history(0, 0), CaseDesk.NONE);
         due.is("instance(0, 2)", desk.instance(0, 2), CaseDesk.NONE);
         due.is("marked(0, 0, 0)", desk.marked(0, 0, 0), false);
-        new Twins(due, d -> { }).refuse("move(0, 9)", java.util.NoSuchElementException.class, d -> d.move(0, 9));
+        Twins fresh = new Twins(due, d -> { });
+        fresh.refuse("move(0, 9)", NoSuchElementException.class, d -> d.move(0, 9));
     }
 
     /** "the file has zeros": asked for, and in an if-part too. */

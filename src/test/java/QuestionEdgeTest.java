@@ -143,7 +143,7 @@ public final class QuestionEdgeTest {
         due.is("CREATE, START and 400 more", busy.instance(1, 3), 402);
     }
 
-    /** Tasks 1 and 2, listener 3; the first parts of sentries 0 and 15 of task 1, 1 and 14 of task 2 are marked. */
+    /** Of task 1 the first parts of sentries 0 and 15 are marked, of task 2 those of 1 and 14. */
     private static CaseDesk withMarks() {
         CaseDesk desk = new CaseDesk();
         desk.item(1, 0, 0);
@@ -202,7 +202,8 @@ public final class QuestionEdgeTest {
         desk.set(0, 1);
         for (int s = 0; s < 3; s++) {
             for (int part = 0; part < 2; part++) {
-                due.is("part " + part + " of the " + s + " of sentry " + s, desk.marked(1, s, part), part < s);
+                String what = "part " + part + " of the " + s + " of sentry " + s;
+                due.is(what, desk.marked(1, s, part), part < s);
             }
         }
     }
@@ -264,7 +265,7 @@ public final class QuestionEdgeTest {
         due.is("the full desk", full.moves(), 79);
     }
 
-    /** "Move k (from 0, the latest first) of the latest 48 in the history": with 47, 48, 49, 96 and 97 moves. */
+    /** "Move k (from 0, the latest first) of the latest 48": with 47, 48, 49, 96, 97 moves and more. */
     private static void historyOfTheLatest48(Due due) {
         for (int count : new int[] {4, 46, 47, 48, 49, 50, 95, 96, 97, 144, 145}) {
             CaseDesk desk = new CaseDesk();

@@ -7,7 +7,9 @@ import java.util.Random;
 public final class RefusedRunsTest {
     private static final int RUNS = 1500;
     private static final int CALLS = 160;
-    private static final int[] STRANGE = {Integer.MIN_VALUE, -1, 4, 10, 12, 16, 40, 61, 99, 104, Integer.MAX_VALUE};
+    private static final int[] STRANGE = {
+        Integer.MIN_VALUE, -1, 4, 10, 12, 16, 40, 61, 99, 104, Integer.MAX_VALUE
+    };
 
     private interface Call {
         int answer(CaseDesk desk);

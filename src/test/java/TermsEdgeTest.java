@@ -4,6 +4,7 @@ import java.util.NoSuchElementException;
 public final class TermsEdgeTest {
     private static final Class<IllegalStateException> STATE = IllegalStateException.class;
     private static final Class<IllegalArgumentException> ARGUMENT = IllegalArgumentException.class;
+    private static final Class<UnsupportedOperationException> CUT = UnsupportedOperationException.class;
 
     /** The moves by which a task comes from ACTIVE into each state; 0 where none is needed. */
     private static final int[] MOVE_THERE = {0, 0, 0, 5, 4, 9, 7};
@@ -18,7 +19,8 @@ public final class TermsEdgeTest {
         repeatingWithoutEntries(due);
         repeatingWithEntries(due);
         notRepeating(due);
-        markedBesideItOnly(due);
+        markedUnlessFinal(due);
+        markedWithTheSameParent(due);
         satisfiedWithoutParts(due);
         satisfiedWithTwoParts(due);
         satisfiedOnceTheIfPartIsTrue(due);
@@ -117,7 +119,7 @@ public final class TermsEdgeTest {
         states(due, "after", desk, 0, "2405554555");
     }
 
-    /** "SUSPEND of a stage: its ACTIVE children SUSPEND"; "RESUME of a stage: its SUSPENDED children RESUME". */
+    /** "SUSPEND of a stage: its ACTIVE children SUSPEND"; "RESUME ..: its SUSPENDED children RESUME". */
     private static void suspendAndResumeOfAStage(Due due) {
         CaseDesk desk = stageOfAllStates();
         due.is("SUSPEND", desk.move(1, 5), 2);
@@ -154,7 +156,7 @@ public final class TermsEdgeTest {
         }
     }
 
-    /** The next one comes when one is let in, not when it completes: even by an entry that isn't satisfied. */
+    /** With an entry, satisfied or not, the next one comes when one is let in, not when it completes. */
     private static void repeatingWithEntries(Due due) {
         CaseDesk desk = new CaseDesk();
         desk.item(1, 0, 1);
@@ -184,8 +186,8 @@ public final class TermsEdgeTest {
         due.is("instances()", desk.instances(), 5);
     }
 
-    /** "of every instance that has the same parent, isn't final and isn't itself". */
-    private static void markedBesideItOnly(Due due) {
+    /** "of every instance that .. isn't final": of one item, beside the source and not further in. */
+    private static void markedUnlessFinal(Due due) {
         CaseDesk desk = new CaseDesk();
         desk.item(1, 0, 1);
         desk.item(3, 0, 1);
@@ -205,6 +207,29 @@ public final class TermsEdgeTest {
         due.is("the task further in isn't", desk.marked(4, 1, 0), false);
         due.is("OCCUR further in", desk.move(5, 3), 1);
         due.is("the task further in is marked", desk.marked(4, 1, 0), true);
+    }
+
+    /** "that has the same parent": in each of two instances of a stage only what moves beside it is heard. */
+    private static void markedWithTheSameParent(Due due) {
+        for (int move : new int[] {2, 4, 5, 7, 9}) {
+            CaseDesk desk = new CaseDesk();
+            desk.item(0, 0, 1);
+            desk.item(1, 1, 4);
+            desk.item(1, 1, 0);
+            desk.on(desk.sentry(1, false), 100, 0);
+            desk.on(desk.sentry(3, true), 2, move);
+            desk.on(1, 103, 0);
+            desk.begin(30);
+            desk.set(0, 1);
+            desk.set(0, 2);
+            states(due, "two stages, one that waits, and what is in them", desk, 1, "22" + "12" + "0" + "12");
+            if (move != 2 && move != 9) {
+                desk.move(6, 2);
+            }
+            due.is("move " + move, desk.move(6, move), 1);
+            due.is("the task beside it", desk.marked(7, 1, 0), true);
+            due.is("the task of the other stage", desk.marked(4, 1, 0), false);
+        }
     }
 
     /** "if all its on-parts are marked .. and its if-part, if it has one, is true": with neither it is. */
@@ -404,9 +429,9 @@ public final class TermsEdgeTest {
         begun.refuse("move", NoSuchElementException.class, desk -> desk.move(-1, -1));
         begun.refuse("move of one that is there", ARGUMENT, desk -> desk.move(38, -1));
         begun.refuse("a move that is one", STATE, desk -> desk.move(38, 3));
-        begun.refuse("a move that can be made", UnsupportedOperationException.class, desk -> desk.move(39, 3));
+        begun.refuse("a move that can be made", CUT, desk -> desk.move(39, 3));
         Twins endless = new Twins(due, desk -> desk.item(2, 0, 1));
         endless.refuse("begin without end and with a wrong bound", ARGUMENT, desk -> desk.begin(61));
-        endless.refuse("begin without end", UnsupportedOperationException.class, desk -> desk.begin(60));
+        endless.refuse("begin without end", CUT, desk -> desk.begin(60));
     }
 }
