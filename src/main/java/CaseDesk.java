@@ -674,11 +674,13 @@ public final class CaseDesk {
             return count - 1;
         }
 
+        /** floorMod finds a place even if the count has gone round, after far more calls than are promised. */
         void note(int k, int move) {
+            int place = Math.floorMod(moveCount, REMEMBERED);
             state[k] = STATE_AFTER[move];
             movesMade[k]++;
-            pastInstance[moveCount % REMEMBERED] = k;
-            pastMove[moveCount % REMEMBERED] = move;
+            pastInstance[place] = k;
+            pastMove[place] = move;
             moveCount++;
         }
 

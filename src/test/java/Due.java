@@ -23,6 +23,15 @@ final class Due {
         }
     }
 
+    /** The latest moves, the earliest of them first, are these, written as instance:move. */
+    void latest(String what, CaseDesk desk, String want) {
+        StringBuilder got = new StringBuilder();
+        for (int k = want.split(" ").length - 1; k >= 0; k--) {
+            got.append(desk.history(k, 0)).append(':').append(desk.history(k, 1)).append(k > 0 ? " " : "");
+        }
+        same(what, got.toString(), want);
+    }
+
     /** The call throws just this exception, no subclass of it. */
     void fails(String what, Class<? extends RuntimeException> due, Runnable call) {
         asked++;

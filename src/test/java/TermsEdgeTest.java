@@ -35,15 +35,6 @@ public final class TermsEdgeTest {
         due.end();
     }
 
-    /** The latest moves, the earliest of them first, written as instance:move. */
-    private static void latest(Due due, String what, CaseDesk desk, String want) {
-        StringBuilder got = new StringBuilder();
-        for (int k = want.split(" ").length - 1; k >= 0; k--) {
-            got.append(desk.history(k, 0)).append(':').append(desk.history(k, 1)).append(k > 0 ? " " : "");
-        }
-        due.same(what, got.toString(), want);
-    }
-
     private static void states(Due due, String what, CaseDesk desk, int from, String want) {
         StringBuilder got = new StringBuilder();
         for (int k = from; k < from + want.length(); k++) {
@@ -74,7 +65,7 @@ public final class TermsEdgeTest {
         desk.item(3, 1, 0);
         due.is("begin", desk.begin(60), 5);
         due.is("START of stage 1", desk.move(1, 2), 8);
-        latest(due, "by number, then worked off", desk, "1:2 3:0 4:0 5:0 6:0 3:1 4:3 5:1");
+        due.latest("by number, then worked off", desk, "1:2 3:0 4:0 5:0 6:0 3:1 4:3 5:1");
         for (int k = 3; k < 7; k++) {
             due.is("parent of " + k, desk.instance(k, 1), 1);
             due.is("item of " + k, desk.instance(k, 0), new int[] {3, 5, 6, 7}[k - 3]);
@@ -102,7 +93,7 @@ public final class TermsEdgeTest {
         CaseDesk desk = stageOfAllStates();
         states(due, "before", desk, 3, "1234560");
         due.is("EXIT", desk.move(1, 9), 6);
-        latest(due, "in this order", desk, "1:9 3:9 4:9 5:9 8:9 9:9");
+        due.latest("in this order", desk, "1:9 3:9 4:9 5:9 8:9 9:9");
         states(due, "after", desk, 3, "5554555");
         states(due, "the stage and what is beside it", desk, 0, "250");
     }
@@ -115,7 +106,7 @@ public final class TermsEdgeTest {
         }
         states(due, "before", desk, 3, "1554550");
         due.is("COMPLETE", desk.move(1, 4), 3);
-        latest(due, "in this order", desk, "1:4 3:9 9:9");
+        due.latest("in this order", desk, "1:4 3:9 9:9");
         states(due, "after", desk, 0, "2405554555");
     }
 
@@ -123,10 +114,10 @@ public final class TermsEdgeTest {
     private static void suspendAndResumeOfAStage(Due due) {
         CaseDesk desk = stageOfAllStates();
         due.is("SUSPEND", desk.move(1, 5), 2);
-        latest(due, "in this order", desk, "1:5 4:5");
+        due.latest("in this order", desk, "1:5 4:5");
         states(due, "suspended", desk, 1, "30" + "1334560");
         due.is("RESUME", desk.move(1, 6), 3);
-        latest(due, "by number", desk, "1:6 4:6 5:6");
+        due.latest("by number", desk, "1:6 4:6 5:6");
         states(due, "resumed", desk, 1, "20" + "1224560");
     }
 
@@ -143,11 +134,11 @@ public final class TermsEdgeTest {
             }
             desk.begin(30);
             due.is("COMPLETE of the task, the next one STARTS", desk.move(1, 4), 3);
-            latest(due, "in this order", desk, "1:4 4:0 4:2");
+            due.latest("in this order", desk, "1:4 4:0 4:2");
             due.is("START and COMPLETE of the stage, the next one is ENABLED", desk.move(2, 2), 4);
-            latest(due, "in this order", desk, "2:2 2:4 5:0 5:1");
+            due.latest("in this order", desk, "2:2 2:4 5:0 5:1");
             due.is("OCCUR of the listener, the next one waits", desk.move(3, 3), 2);
-            latest(due, "in this order", desk, "3:3 6:0");
+            due.latest("in this order", desk, "3:3 6:0");
             due.is("EXIT is no reason for a next one", desk.move(6, 9), 1);
             due.is("instances()", desk.instances(), 7);
             if (exits == 1) {
@@ -164,7 +155,7 @@ public final class TermsEdgeTest {
         desk.on(desk.sentry(1, false), 101, 0);
         desk.begin(30);
         due.is("CREATE, START", desk.set(1, 1), 2);
-        latest(due, "in this order", desk, "2:0 1:2");
+        due.latest("in this order", desk, "2:0 1:2");
         due.is("COMPLETE", desk.move(1, 4), 1);
         due.is("instances()", desk.instances(), 3);
         due.is("the next one waits", desk.instance(2, 2), 0);
@@ -316,7 +307,7 @@ public final class TermsEdgeTest {
         desk.on(desk.sentry(6, true), 100, 0);
         desk.begin(30);
         due.is("set", desk.set(0, 1), 6);
-        latest(due, "in this order", desk, "4:9 5:9 6:9 2:2 3:2 1:4");
+        due.latest("in this order", desk, "4:9 5:9 6:9 2:2 3:2 1:4");
     }
 
     /** "the lowest AVAILABLE instance of a stage, task or milestone": a listener waits for its command. */
@@ -354,11 +345,11 @@ public final class TermsEdgeTest {
         due.is("set", desk.set(0, 1), 0);
         states(due, "they stay", desk, 1, "3030");
         due.is("RESUME of both, EXIT, START", desk.move(1, 6), 4);
-        latest(due, "in this order", desk, "1:6 3:6 3:9 4:2");
+        due.latest("in this order", desk, "1:6 3:6 3:9 4:2");
         desk.move(1, 5);
         due.is("set", desk.set(1, 1), 0);
         due.is("RESUME of both, EXIT, COMPLETE of the stage", desk.move(1, 6), 4);
-        latest(due, "in this order", desk, "1:6 4:6 4:9 1:4");
+        due.latest("in this order", desk, "1:6 4:6 4:9 1:4");
     }
 
     /** SETTLED and DONE: the stage automatic or not, the child required or not and in each state. */

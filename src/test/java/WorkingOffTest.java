@@ -23,15 +23,6 @@ public final class WorkingOffTest {
         due.end();
     }
 
-    /** The latest moves, the earliest of them first, written as instance:move. */
-    private static void latest(Due due, String what, CaseDesk desk, String want) {
-        StringBuilder got = new StringBuilder();
-        for (int k = want.split(" ").length - 1; k >= 0; k--) {
-            got.append(desk.history(k, 0)).append(':').append(desk.history(k, 1)).append(k > 0 ? " " : "");
-        }
-        due.same(what, got.toString(), want);
-    }
-
     private static void exitsComeFirst(Due due) {
         CaseDesk desk = new CaseDesk();
         desk.item(1, 0, 0);
@@ -43,7 +34,7 @@ public final class WorkingOffTest {
         desk.begin(20);
         due.is("the second task leaves, then the first, before it is let in; the case completes",
                 desk.move(3, 3), 4);
-        latest(due, "in this order", desk, "3:3 2:9 1:9 0:4");
+        due.latest("in this order", desk, "3:3 2:9 1:9 0:4");
     }
 
     private static void lowestFirst(Due due) {
@@ -58,7 +49,7 @@ public final class WorkingOffTest {
         }
         desk.begin(20);
         due.is("OCCUR", desk.move(1, 3), 5);
-        latest(due, "START, OCCUR, ENABLE, START by number", desk, "1:3 2:2 3:3 4:1 5:2");
+        due.latest("START, OCCUR, ENABLE, START by number", desk, "1:3 2:2 3:3 4:1 5:2");
     }
 
     /** The second empty stage is let in before the first one completes. */
@@ -68,7 +59,7 @@ public final class WorkingOffTest {
         desk.item(0, 0, 0);
         desk.item(3, 0, 0);
         due.is("begin", desk.begin(20), 9);
-        latest(due, "both start, then both complete", desk, "0:0 0:2 1:0 2:0 3:0 1:2 2:2 1:4 2:4");
+        due.latest("both start, then both complete", desk, "0:0 0:2 1:0 2:0 3:0 1:2 2:2 1:4 2:4");
     }
 
     private static void repeatingWithEntry(Due due) {
@@ -82,13 +73,13 @@ public final class WorkingOffTest {
         }
         due.is("begin lets none in", desk.begin(30), 6);
         due.is("OCCUR", desk.move(1, 3), 8);
-        latest(due, "the next one is created before the first moves", desk,
+        due.latest("the next one is created before the first moves", desk,
                 "1:3 5:0 6:0 2:2 7:0 3:1 8:0 4:3");
         due.is("the next one isn't marked", desk.marked(6, 0, 0), false);
         due.is("the first one stays marked", desk.marked(2, 0, 0), true);
         due.is("COMPLETE of the first one creates none", desk.move(2, 4), 1);
         due.is("OCCUR of the next listener", desk.move(5, 3), 8);
-        latest(due, "lets in the next ones", desk, "5:3 9:0 10:0 6:2 11:0 7:1 12:0 8:3");
+        due.latest("lets in the next ones", desk, "5:3 9:0 10:0 6:2 11:0 7:1 12:0 8:3");
         due.is("they have the same parent", desk.instance(12, 1), 0);
     }
 
@@ -98,7 +89,7 @@ public final class WorkingOffTest {
         desk.on(desk.sentry(1, true), 100, 0);
         desk.begin(20);
         due.is("COMPLETE, CREATE, START", desk.move(1, 4), 3);
-        latest(due, "in this order", desk, "1:4 2:0 2:2");
+        due.latest("in this order", desk, "1:4 2:0 2:2");
         due.is("FAIL creates none", desk.move(2, 7), 1);
         due.is("RETRY creates none", desk.move(2, 8), 1);
         due.is("EXIT creates none, and the case completes", desk.set(0, 1), 2);
@@ -117,7 +108,7 @@ public final class WorkingOffTest {
         desk.begin(20);
         desk.move(1, 2);
         due.is("COMPLETE", desk.move(1, 4), 4);
-        latest(due, "in this order", desk, "1:4 2:9 3:0 3:1");
+        due.latest("in this order", desk, "1:4 2:9 3:0 3:1");
         due.is("the listener that left isn't repeated", desk.instances(), 4);
     }
 
@@ -129,7 +120,7 @@ public final class WorkingOffTest {
         desk.item(3, 1, 1);
         desk.begin(20);
         due.is("EXIT of the case with all in it", desk.move(0, 9), 4);
-        latest(due, "in this order", desk, "0:9 1:9 2:9 3:9");
+        due.latest("in this order", desk, "0:9 1:9 2:9 3:9");
         due.is("instances()", desk.instances(), 4);
     }
 
@@ -163,7 +154,7 @@ public final class WorkingOffTest {
         due.is("two stages, one more that waits, and what is in them", desk.instances(), 8);
         due.is("the listener of the second", desk.instance(6, 1), 2);
         due.is("OCCUR, OCCUR, COMPLETE of the second", desk.move(6, 3), 3);
-        latest(due, "in this order", desk, "6:3 7:3 2:4");
+        due.latest("in this order", desk, "6:3 7:3 2:4");
         due.is("the milestone of the first waits", desk.instance(4, 2), 0);
         due.is("and isn't marked", desk.marked(4, 1, 0), false);
     }
@@ -193,9 +184,9 @@ public final class WorkingOffTest {
         desk.move(5, 7);
         desk.move(3, 5);
         due.is("SUSPEND of the case: what is ACTIVE in it, at every depth", desk.move(0, 5), 3);
-        latest(due, "in this order", desk, "0:5 1:5 2:5");
+        due.latest("in this order", desk, "0:5 1:5 2:5");
         due.is("RESUME of the case: also what was SUSPENDED by itself", desk.move(0, 6), 4);
-        latest(due, "by number, each wholly", desk, "0:6 1:6 3:6 2:6");
+        due.latest("by number, each wholly", desk, "0:6 1:6 3:6 2:6");
         due.is("the ENABLED one stayed", desk.instance(4, 2), 1);
         due.is("the FAILED one stayed", desk.instance(5, 2), 6);
     }
@@ -210,7 +201,7 @@ public final class WorkingOffTest {
         desk.item(1, 1, 0);
         desk.begin(30);
         due.is("EXIT of the case", desk.move(0, 9), 6);
-        latest(due, "in this order", desk, "0:9 1:9 3:9 5:9 4:9 2:9");
+        due.latest("in this order", desk, "0:9 1:9 3:9 5:9 4:9 2:9");
     }
 
     private static void automatic(Due due) {
@@ -224,7 +215,7 @@ public final class WorkingOffTest {
         desk.begin(30);
         due.is("a required listener keeps the stage", desk.move(4, 4), 1);
         due.is("then it is done", desk.move(6, 3), 4);
-        latest(due, "and what is left in it leaves", desk, "6:3 1:4 3:9 5:9");
+        due.latest("and what is left in it leaves", desk, "6:3 1:4 3:9 5:9");
         due.is("the case isn't automatic", desk.instance(0, 2), 2);
     }
 
@@ -237,7 +228,7 @@ public final class WorkingOffTest {
         due.is("an ENABLED one keeps the stage", desk.move(3, 3), 1);
         due.is("START", desk.move(2, 2), 1);
         due.is("COMPLETE of the task, the stage and the case", desk.move(2, 4), 3);
-        latest(due, "in this order", desk, "2:4 1:4 0:4");
+        due.latest("in this order", desk, "2:4 1:4 0:4");
     }
 
     /** Eleven stages, the case among them, each in the one before, with a task in the last. */
@@ -249,10 +240,10 @@ public final class WorkingOffTest {
         desk.item(1, 10, 0);
         due.is("begin", desk.begin(60), 24);
         due.is("SUSPEND of the case", desk.move(0, 5), 12);
-        latest(due, "from the outside in", desk, "0:5 1:5 2:5 3:5 4:5 5:5 6:5 7:5 8:5 9:5 10:5 11:5");
+        due.latest("from the outside in", desk, "0:5 1:5 2:5 3:5 4:5 5:5 6:5 7:5 8:5 9:5 10:5 11:5");
         due.is("RESUME of the case", desk.move(0, 6), 12);
         due.is("COMPLETE of the task and all stages", desk.move(11, 4), 12);
-        latest(due, "from the inside out", desk, "11:4 10:4 9:4 8:4 7:4 6:4 5:4 4:4 3:4 2:4 1:4 0:4");
+        due.latest("from the inside out", desk, "11:4 10:4 9:4 8:4 7:4 6:4 5:4 4:4 3:4 2:4 1:4 0:4");
     }
 
     /** Just as many moves as the bound are no reason to cut off; one more is. */
